@@ -27,9 +27,10 @@ public final class UnlikeDrawn {
     /** NONE and BAD where any number is told; NONE also marks a PART that is left out. */
     private static final int LEFT_OUT = -9999;
     private static final int BAD_NUMBER = -10002;
-    private static final int BAD_ITEM = Integer.MIN_VALUE;
-    private static final long BAD_LONG = Long.MIN_VALUE + 2;
-    private static final long NOT_LONG = Long.MIN_VALUE + 3;
+    private static final int BAD_ITEM = -2147483648;
+    private static final long LEAST_LONG = -9223372036854775808L;
+    private static final long BAD_LONG = LEAST_LONG + 2;
+    private static final long NOT_LONG = LEAST_LONG + 3;
 
     private static final int NULL_FOUND = 1;
     private static final int INDEX_FOUND = 2;

@@ -16,9 +16,11 @@ final class KnowersTest {
         namedRefusals();
         much();
         muchOfLikeOnes();
+        muchWithAllParts();
         muchRefusals();
         few();
         fewOfOneWhoLeans();
+        fewIsAllParts();
         partsRefusals();
         due.end();
     }
@@ -254,6 +256,20 @@ final class KnowersTest {
         due.is("off by more than 5", x.much(0, 0, 2, 2), 60);
     }
 
+    /** Without PART 0, or with PART 0 alone, the other one would be NAMED. */
+    private static void muchWithAllParts() {
+        UnlikeDrawn x = Due.withHeads(Due.row(50, 60), Due.row(60, 60), Due.row());
+        x.knower(4, 3);
+        due.is("the least by both PARTS", x.much(0, 1, 4, 0), 1);
+        due.is("the best by both PARTS", x.much(0, 1, 4, 1), 60);
+        x.place(0, 0, 60);
+        x.place(0, 1, 50);
+        due.is("the least by both PARTS again", x.much(0, 1, 4, 0), 1);
+        x.place(2, 7, 0);
+        x.set(0, 99);
+        due.is("a MONSTER by PART 7 alone", x.much(0, 1, 4, 2), 20);
+    }
+
     private static void muchRefusals() {
         UnlikeDrawn x = opposites();
         x.knower(3, 3);
@@ -303,6 +319,20 @@ final class KnowersTest {
         due.is("d 10 and h 20 by PART 0, TENTHS 0", x.few(0, 0, 3, 0), 1);
         due.is("each of both PARTS, TENTHS 0", x.stands(0, 0, 3, 0), 3);
         due.is("never 1: h is 0", x.few(0, 1, 3, 10), UnlikeDrawn.NONE);
+    }
+
+    /** Found by a search: without any one PART another HEAD is NAMED. */
+    private static void fewIsAllParts() {
+        UnlikeDrawn x = Due.withHeads(
+                Due.row(29, 46, 67, 58, 74, 71, 39, 38), Due.row(10, 11, 64, 67, 51, 46, 52, 31),
+                Due.row(9, 52, 75, 45, 91, 34, 39, 31), Due.row(26, 35, 64, 58, 64, 44, 39, 31),
+                Due.row(30, 35, 61, 61, 80, 44, 40, 29), Due.row(26, 44, 63, 46, 48, 46, 39, 32),
+                Due.row(23, 39, 55, 72, 59, 46, 39, 31), Due.row(26, 36, 64, 58, 64, 44, 39, 31));
+        x.knower(188, 255);
+        due.is("7 by all PARTS", x.few(0, 7, 178, 24), 255);
+        due.is("7 by none alone", x.stands(0, 7, 178, 24), 0);
+        x.knower(188, 128);
+        due.is("7 by one who KNOWS nobody else", Integer.bitCount(x.few(1, 7, 178, 24)), 1);
     }
 
     private static void partsRefusals() {

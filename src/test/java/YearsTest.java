@@ -174,6 +174,9 @@ final class YearsTest {
         due.is("of like ones the least", x.plainest(5), 0);
         due.is("of one", x.plainest(8), 3);
         due.is("of those of the SET alone", x.plainest(12), 2);
+        x.place(1, 0, 99);
+        // the MEAN is 66 and 50: off by 6 and 10, 33 and 2, 26 and 10
+        due.is("by PART 0 too", x.plainest(7), 0);
         due.is("plainest(0)", x.plainest(0), UnlikeDrawn.BAD);
         due.is("plainest(16)", x.plainest(16), UnlikeDrawn.BAD);
         due.is("plainest(-1)", x.plainest(-1), UnlikeDrawn.BAD);
