@@ -30,6 +30,16 @@ final class Due {
         }
     }
 
+    void same(String where, String got, String want) {
+        asked++;
+        if (!got.equals(want)) {
+            wrong++;
+            if (wrong <= MOST_TOLD) {
+                System.out.println(test + ": " + where + " " + got + ", due is: " + want);
+            }
+        }
+    }
+
     /** Tells how it went and ends the program; with 1 if an answer was not as due. */
     void end() {
         System.out.println(test + ": " + asked + " answers, " + wrong + " not as due");

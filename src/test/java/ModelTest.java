@@ -1,7 +1,3 @@
-import java.lang.reflect.Method;
-import java.util.ArrayList;
-import java.util.Comparator;
-import java.util.List;
 import java.util.Random;
 
 /** Many runs of 512 calls by chance (the same ones each time), each answer beside the one of the Model. */
@@ -12,6 +8,7 @@ final class ModelTest {
         "*+15", "0+30", "1x", "5-10", "*-10", "*x", "7+60", "2-60", "3+0", "4-0", "*+60", "6+5", "0x", "*+9", "1+61",
         "8+1", "3", "2+", "*+123", "",
     };
+    private static final String[] FACE = Calls.Face.names();
     private static final int[] WILD = {-1, -2, Integer.MIN_VALUE, Integer.MAX_VALUE, 1000, 256, 100, 61, 60, 31, 8, 4};
     /** Calls that make something; without them most others would be refused. */
     private static final String[] MAKERS = {
@@ -20,7 +17,6 @@ final class ModelTest {
 
     private final Due due;
     private final Random chance;
-    private final Method[] face;
     private final int run;
     private final boolean tame;
     private final UnlikeDrawn x = new UnlikeDrawn();
@@ -28,37 +24,22 @@ final class ModelTest {
     private int made;
     private int year;
 
-    private ModelTest(Due due, Method[] face, int run) {
+    private ModelTest(Due due, int run) {
         this.due = due;
-        this.face = face;
         this.run = run;
         this.chance = new Random(run);
         this.tame = run % 4 != 0;
     }
 
-    public static void main(String[] args) throws ReflectiveOperationException {
+    public static void main(String[] args) {
         Due due = new Due("model");
-        Method[] face = methods();
         for (int run = 1; run <= RUNS && due.wrong() < 20; run++) {
-            new ModelTest(due, face, run).calls();
+            new ModelTest(due, run).calls();
         }
         due.end();
     }
 
-    private static Method[] methods() {
-        List<Method> methods = new ArrayList<>();
-        for (Method method : UnlikeDrawn.class.getDeclaredMethods()) {
-            if (java.lang.reflect.Modifier.isPublic(method.getModifiers())) {
-                method.setAccessible(true);
-                methods.add(method);
-            }
-        }
-        // the order in which they are found is not told
-        methods.sort(Comparator.comparing(Method::getName));
-        return methods.toArray(new Method[0]);
-    }
-
-    private void calls() throws ReflectiveOperationException {
+    private void calls() {
         int heads = chance.nextInt(9);
         while (made < CALLS - 60) {
             if (heads > 0) {
@@ -71,12 +52,12 @@ final class ModelTest {
             } else if (!maker.equals("head") || chance.nextInt(20) == 0) {
                 ask(maker);
             }
-            ask(face[chance.nextInt(face.length)].getName());
+            ask(FACE[chance.nextInt(FACE.length)]);
         }
         ask("digest");
     }
 
-    private void typePieces() throws ReflectiveOperationException {
+    private void typePieces() {
         int hand = chance.nextInt(4);
         if (chance.nextInt(3) > 0) {
             asked("wipe", hand);
@@ -91,8 +72,8 @@ final class ModelTest {
         asked("fault", hand);
     }
 
-    private void ask(String name) throws ReflectiveOperationException {
-        int[] args = new int[method(name).getParameterCount()];
+    private void ask(String name) {
+        int[] args = new int[Calls.Face.arguments(name)];
         for (int i = 0; i < args.length; i++) {
             args[i] = argument(name, i);
         }
@@ -102,29 +83,14 @@ final class ModelTest {
         asked(name, args);
     }
 
-    private void asked(String name, int... args) throws ReflectiveOperationException {
-        Object[] boxed = new Object[args.length];
-        StringBuilder told = new StringBuilder("run " + run + ", call " + made + ": " + name + "(");
-        for (int i = 0; i < args.length; i++) {
-            boxed[i] = args[i];
-            told.append(i == 0 ? "" : ", ").append(args[i]);
-        }
+    private void asked(String name, int... args) {
+        String told = "run " + run + ", call " + made + ": " + Calls.told(name, args);
         made++;
-        long got = ((Number) method(name).invoke(x, boxed)).longValue();
-        due.is(told.append(")").toString(), got, model.call(name, args));
+        due.is(told, Calls.Face.ask(x, name, args), model.call(name, args));
         if (made % 8 == 0) {
             made++;
             due.is("count(8) behind " + told, x.count(8), model.call("count", new int[] {8}));
         }
-    }
-
-    private Method method(String name) {
-        for (Method method : face) {
-            if (method.getName().equals(name)) {
-                return method;
-            }
-        }
-        throw new IllegalArgumentException(name);
     }
 
     /** An argument that may mostly be told, now and then one beyond. */
