@@ -4,7 +4,6 @@ final class HeadsAndHandsTest {
 
     public static void main(String[] args) {
         newObject();
-        newDigest();
         head();
         place();
         read();
@@ -41,20 +40,6 @@ final class HeadsAndHandsTest {
         due.is("first RUIN", x.set(0, 60), 60);
         due.is("first LAG", x.set(1, 10), 10);
         due.is("first ODD", x.set(2, 20), 20);
-    }
-
-    private static void newDigest() {
-        long h = 17;
-        for (int i = 0; i < 8; i++) {
-            h = 31 * h;
-        }
-        for (int hand = 0; hand < 4; hand++) {
-            h = 31 * h - 1;
-            for (int part = 0; part < 8; part++) {
-                h = 31 * h + 10;
-            }
-        }
-        due.is("digest() of a new one", new UnlikeDrawn().digest(), h);
     }
 
     // promise 2
