@@ -2,8 +2,8 @@ import java.util.ArrayList;
 import java.util.List;
 
 /**
- * All that can be seen of an object, but count() 8. It takes some 200 calls and spoils the object (SETTINGS are told
- * anew, SHEETS get LOST), so it is the last that is asked of it.
+ * All that can be seen of an object, but count() 8. It takes some 210 calls and spoils the object (SETTINGS are told
+ * anew, SHEETS get LOST, HANDS go on, DRAWINGS are COPIED), so it is the last that is asked of it.
  */
 final class Seen {
     private final Calls x;
@@ -20,6 +20,8 @@ final class Seen {
         seen.knowers();
         seen.sheets();
         seen.settings();
+        seen.texts();
+        seen.means();
         return seen.rows;
     }
 
@@ -70,6 +72,29 @@ final class Seen {
     private void settings() {
         for (int what = 0; what < 3; what++) {
             row("set", what, 1);
+        }
+    }
+
+    /** How a text goes on tells more of it than what it says now. */
+    private void texts() {
+        for (int hand = 0; hand < 4; hand++) {
+            row("type", hand, '0');
+            row("fault", hand);
+        }
+    }
+
+    /** By a HAND with +0 a copy has the MEAN that its DRAWING was drawn over, if there may be as many copies. */
+    private void means() {
+        int drawings = (int) x.ask("count", 1);
+        if (2 * drawings > 30) {
+            return;
+        }
+        x.write(0, "*+0");
+        for (int drawing = 0; drawing < drawings; drawing++) {
+            int copy = (int) row("copied", 0, drawing, 99);
+            for (int part = 0; part < 8; part++) {
+                row("line", copy, part);
+            }
         }
     }
 }
